@@ -46,6 +46,7 @@ public final class PromisesTest {
         seedAndYears();
         counts();
         imagesAndBack();
+        longRun();
         DUE.close("PromisesTest");
     }
 
@@ -200,6 +201,10 @@ public final class PromisesTest {
         ruleFault("street 1 1 0", 0, Due.CANT_STAND);
         ruleFault("paint -1", 6, Due.CANT_STAND);
         ruleFault("paint coat", 6, Due.CANT_STAND);
+        ruleFault("paint topz", 6, Due.CANT_STAND);
+        ruleFault("paint atop", 6, Due.CANT_STAND);
+        ruleFault(";".repeat(400), 0, Due.CANT_STAND);
+        ruleFault("paint 1" + " ".repeat(392) + "+", 400, Due.CANT_STAND);
         ruleFault("paint 1 1", 8, Due.CANT_STAND);
         ruleFault("paint 1 top", 8, Due.CANT_STAND);
         ruleFault("paint 1+", 8, Due.CANT_STAND);
@@ -547,6 +552,7 @@ public final class PromisesTest {
         is("16 twenty at most", x.count(13), 20);
         for (int k = 19; k >= 0; k--) {
             is("16 more can be", x.undo(), k);
+            is("16 each act by itself", x.painter(0, 1), 97 - k);
         }
         is("16 none can", x.undo(), -2);
         is("16 two acts stay", x.painter(0, 1), 97);
@@ -640,6 +646,10 @@ public final class PromisesTest {
         is("19 bare", x.least(0, 1, 9, 0), -1);
         LatestCoat y = Due.on("street 2 50 1;thing 4 4;painter 1 0;painter 2 0;coat 0 0;coat 1 0;coat 2 1;coat 3 1;suit");
         is("19 in suit one wet coat is enough now", y.least(0, 0, 0, 1), 4);
+        LatestCoat v = Due.on("street 2 50 0;thing 1 4;painter 1 0;painter 2 0;coat 0 0;rain 1 1;suit");
+        v.paint(0, 1);
+        is("19 the rain of the hour itself is yet to come", v.least(0, 0, 1, 0), -2);
+        is("19 it has come", v.least(0, 0, 2, 0), 0);
         LatestCoat z = Due.on("street 1 75 1;thing 4 4;painter 1 0;coat 1 0");
         is("19 two more", z.least(0, 0, 1, 0), 2);
         is("19 cells 0 and 2", z.least(0, 0, 1, 1), 5);
@@ -674,7 +684,13 @@ public final class PromisesTest {
         is("20 nothing changes", x.cell(1, 1), 2);
         x.vote(1);
         is("20 bare", x.fewest(0, 1, 0), -2);
-        // of two ways with two scrapes the row 0 2 comes ahead of 2 0
+        StringBuilder many = new StringBuilder("street 1 16 0;thing 6 0;painter 0 0;painter 0 0;coat 3 0");
+        for (int k = 0; k < 30; k++) {
+            many.append(k % 6 == 3 && k > 24 ? "" : ";coat " + k % 6 + " 1");
+        }
+        LatestCoat full = Due.on(many.toString());
+        is("20 all but one", full.fewest(0, 0, 0), 29);
+        is("20 all but one of the fourth", full.fewest(0, 0, 4), 4);
         LatestCoat y = Due.on("street 1 50 0;thing 2 4;painter 1 9;painter 2 9;"
             + "coat 0 1;coat 0 0;coat 0 0;coat 1 1;coat 1 0;coat 1 0");
         is("20 both, or one and the other bare", y.fewest(1, 0, 0), 4);
@@ -994,5 +1010,29 @@ public final class PromisesTest {
         is("34 made anew", x.image(0), 0);
         is("35 as made anew", x.back(0), 0);
         is("35 no street", x.count(4), 0);
+    }
+
+    /** What is answered behind the 512th call is free, but every call ends and none throws. */
+    private static void longRun() {
+        LatestCoat x = Due.on("street 9 50 0;thing 6 20;thing 6 1;thing 4 1;painter 1 99;painter 2 99;suit");
+        Due.rule(x, "paint coats+1");
+        x.force(0);
+        for (int k = 0; k < 1100; k++) {
+            x.hour();
+        }
+        is("12 at HOUR 999", x.hour(), -1);
+        is("12 999 at most", x.count(9), 999);
+        for (int k = 0; k < 7; k++) {
+            x.paint(k, 0);
+            x.game(0, 1, 0, 4, 0);
+            x.least(0, 0, 60, 0);
+            x.fewest(0, 0, 0);
+            x.ahead(0, 100, 0);
+            x.years(10, 100, 0);
+            x.then(0, 999);
+            x.one();
+            x.when();
+        }
+        is("8 a coat of HOUR 999", x.coat(0, 0, 2), 999);
     }
 }
