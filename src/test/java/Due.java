@@ -60,6 +60,38 @@ final class Due {
         return x;
     }
 
+    /** Lets hours go by. */
+    static void hours(LatestCoat x, int n) {
+        for (int k = 0; k < n; k++) {
+            x.hour();
+        }
+    }
+
+    /** All that can be seen of an object, but for how long its tape is: what it answers to the plainest questions. */
+    static String seen(LatestCoat x) {
+        StringBuilder all = new StringBuilder();
+        for (int what = 0; what < 15; what++) {
+            all.append(x.count(what)).append(' ');
+        }
+        for (int cell = 0; cell < x.count(4); cell++) {
+            all.append("cell");
+            for (int what = 0; what < 5; what++) {
+                all.append(' ').append(x.cell(cell, what));
+            }
+            for (int k = 0; k < x.cell(cell, 1); k++) {
+                all.append(" (").append(x.coat(cell, k, 0)).append(' ').append(x.coat(cell, k, 1)).append(' ');
+                all.append(x.coat(cell, k, 2)).append(") ");
+            }
+        }
+        for (int thing = 0; thing < x.count(3); thing++) {
+            all.append("thing ").append(x.thing(thing, 2)).append(' ').append(x.thing(thing, 3)).append(' ');
+        }
+        for (int painter = 0; painter < x.count(5); painter++) {
+            all.append("painter ").append(x.painter(painter, 0)).append(' ').append(x.painter(painter, 1)).append(' ');
+        }
+        return all.toString();
+    }
+
     /** What street and rule answer for a fault. */
     static int fault(int place, int kind) {
         return -2 - (1 + 8 * place + kind);
