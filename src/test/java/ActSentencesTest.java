@@ -52,6 +52,11 @@ public final class ActSentencesTest {
             t.is("by a rule too", x.cell(0, 1), 5);
             t.is("all told ones went", x.coat(0, 4, 2), 0);
             t.is("the other cell is as it was", x.cell(1, 1), 0);
+            for (int k = 4; k >= 0; k--) {
+                t.is("scraped", told.scrape(0), 0);
+                t.is("coats left", told.cell(0, 1), k);
+            }
+            t.is("what went does not come up again", told.scrape(0), -1);
         });
         t.test(7, "a coat painted in an HOUR is wet in it and till DRY HOURS are over (that many HOURS later it is dry)", () -> {
             for (int dry = 1; dry <= 9; dry++) {
@@ -364,15 +369,22 @@ public final class ActSentencesTest {
                 x.paint(k % 2, 0);
             }
             t.is("twenty", x.count(13), 20);
-            x.undo();
-            t.is("the last first", x.painter(0, 1), 79);
-            for (int k = 18; k >= 0; k--) {
+            for (int k = 19; k >= 0; k--) {
                 t.is("more", x.undo(), k);
+                t.is("the last first", x.painter(0, 1), 98 - k);
             }
             t.is("no more", x.undo(), -2);
             t.is("the first of 21 stands", x.painter(0, 1), 98);
             t.is("its coat", x.cell(0, 1), 1);
             t.is("no coat of the second", x.cell(1, 1), 0);
+            LatestCoat y = Due.on("street 1 50 1;thing 2 0;painter 1 99");
+            for (int k = 0; k < 45; k++) {
+                y.paint(k % 2, 0);
+            }
+            for (int k = 19; k >= 0; k--) {
+                t.is("more of 45", y.undo(), k);
+                t.is("the last of 45 first", y.painter(0, 1), 74 - k);
+            }
         });
     }
 
@@ -408,6 +420,7 @@ public final class ActSentencesTest {
         t.test(7, "4: 1 if that is wet, else 0", () -> {
             LatestCoat x = Due.on(street);
             t.is("none", x.cell(0, 4), 0);
+            t.is("none, where coats are long wet", Due.on("street 9 50 0;thing 1 0").cell(0, 4), 0);
             t.is("dry", x.cell(1, 4), 0);
             x.paint(1, 1);
             t.is("wet", x.cell(1, 4), 1);

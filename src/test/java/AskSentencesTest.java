@@ -121,6 +121,9 @@ public final class AskSentencesTest {
             t.is("painter 1", x.ahead(1, 12, 1), 5);
             t.is("cell 1 is nobody's", x.ahead(1, 0, 2), -1);
             t.is("cell 1", x.ahead(1, 50, 2), 0);
+            LatestCoat wide = Due.on("street 1 50 0;thing 2 0;thing 3 0;painter 1 0;painter 2 0;coat 0 1;coat 1 1;coat 2 0;coat 3 0");
+            t.is("thing 1, not cell 1", wide.ahead(1, 5, 0), 0);
+            t.is("cell 1, not thing 1", wide.ahead(1, 5, 2), 1);
         });
         t.test(17, "-2 without these.", () -> {
             LatestCoat x = ruled("street 2 50 1;thing 2 3;painter 1 3;painter 2 3;painter 3 3", rule);
@@ -187,6 +190,10 @@ public final class AskSentencesTest {
             t.is("60 with rain", rained.least(1, 0, 60, 0), -2);
             rained.hour();
             t.is("it still rains on it", rained.least(1, 0, 60, 0), -2);
+            LatestCoat suit = Due.on("street 2 50 0;thing 1 0;painter 1 0;painter 2 0;coat 0 0;rain 1 1;suit");
+            suit.paint(0, 1);
+            t.is("1 hour on it has not rained yet", suit.least(0, 0, 1, 0), -2);
+            t.is("2 hours on it has", suit.least(0, 0, 2, 0), 0);
             LatestCoat dry = Due.on("street 9 50 0;thing 1 0;painter 1 0;painter 2 0;coat 0 0;rain 9 9");
             t.is("the rain comes when it is dry", dry.least(1, 0, 60, 0), 1);
         });
@@ -380,6 +387,11 @@ public final class AskSentencesTest {
                 worse.paint(0, 1);
             }
             t.is("nothing is better: a sixth coat would take his dry one", worse.game(0, 1, 0, 1, 0), 1);
+            LatestCoat then = Due.on("street 9 50 0;thing 1 0;painter 1 0;painter 2 0;coat 0 0;rain 1 1");
+            for (int k = 0; k < 4; k++) {
+                then.paint(0, 1);
+            }
+            t.is("the second takes it by a sixth, and then it rains", then.game(0, 1, 0, 2, 0), 0);
         });
         t.test(22, "how many CELLS of it the first one owns less those the second one does", () -> {
             LatestCoat x = Due.on("street 1 50 0;thing 1 0;thing 6 0;painter 1 0;painter 2 0;painter 3 0;coat 0 1"
@@ -409,6 +421,8 @@ public final class AskSentencesTest {
             t.is("of two that are as good", x.game(0, 1, 1, 1, 1), 3);
             t.is("the best is the other's", x.game(1, 0, 1, 1, 1), 2);
             t.is("none, if nothing helps", Due.on("street 2 50 0;thing 2 0;painter 1 0;painter 2 0;rain 1 1").game(0, 1, 0, 1, 1), -1);
+            LatestCoat behind = Due.on("street 2 50 0;thing 3 0;thing 2 0;painter 1 0;painter 2 0;rain 1 1");
+            t.is("none, in a thing that is not the first", behind.game(0, 1, 1, 1, 1), -1);
             t.is("none, if all is answered alike", Due.on("street 1 50 0;thing 1 0;painter 1 0;painter 2 0").game(0, 1, 0, 2, 1), -1);
         });
         t.test(22, "GAME what 0: how many, 1: the CELL painted first (by its number; NONE: none)", () -> {
@@ -512,6 +526,9 @@ public final class AskSentencesTest {
                 y.paint(0, 0);
             }
             t.is("five of this hour, so none ahead of it", y.then(0, 0), -1);
+            LatestCoat wide = Due.on("street 1 50 0;thing 2 0;thing 1 0;painter 1 0;painter 2 0;coat 0 0;coat 2 1");
+            t.is("by the cells of that thing alone", wide.then(0, 0), 0);
+            t.is("and of the other", wide.then(1, 0), 1);
         });
         t.test(24, "THEN (HOUR 0 to the HOUR now; bare now: NONE): who; NONE: nobody", () -> {
             LatestCoat x = Due.on("street 1 50 0;thing 1 0;thing 1 0;painter 1 0;painter 2 0;coat 0 1");

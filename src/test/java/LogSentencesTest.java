@@ -189,6 +189,14 @@ public final class LogSentencesTest {
             // thing 0: rules 0 and 2 painter 0, rule 4 painter 1, four nobody; thing 1 likewise with rule 5
             t.is("the least of two", six.look(1, 0), 0);
             t.is("four of seven", six.look(1, 1), 4);
+            LatestCoat wide = Due.on("street 1 50 0;thing 1 0;thing 1 0;thing 1 0;thing 1 0;painter 1 0");
+            for (int k = 0; k < 6; k++) {
+                Due.rule(wide, "paint 1 if cell=3 and hour=" + k);
+            }
+            t.is("all seven alike", wide.look(0, 1), 7);
+            t.is("by the least of four", wide.look(0, 0), 0);
+            t.is("by the last of four", wide.look(3, 0), 3);
+            t.is("rules 3 to 5 and none", wide.look(3, 1), 4);
         });
         t.test(29, "LOOK what 0: the THING, 1: how many; -2: no RULE is so, or there are no THINGS.", () -> {
             LatestCoat x = told();
@@ -455,6 +463,7 @@ public final class LogSentencesTest {
             t.is("the last", x.count(10), 32768);
             x.hour();
             t.is("none", x.count(10), 0);
+            t.is("no coats, where they are long wet", Due.on("street 9 50 0;thing 6 0").count(10), 0);
         });
         t.test(33, "11: THINGS that are bare, as bits", () -> {
             LatestCoat x = Due.on("street 2 50 0;thing 1 0;thing 1 0;thing 1 0;thing 1 0;bare 3");
@@ -539,6 +548,34 @@ public final class LogSentencesTest {
                 t.is("undo", x.undo(), k);
             }
             t.is("no more", x.undo(), -2);
+        });
+        t.test(34, "what can be UNDONE, too", () -> {
+            LatestCoat x = Due.on("street 1 50 1;thing 2 0;painter 1 99");
+            for (int k = 0; k < 5; k++) {
+                x.paint(0, 0);
+            }
+            x.image(0);
+            for (int k = 0; k < 30; k++) {
+                x.paint(1, 0);
+            }
+            x.back(0);
+            for (int k = 4; k >= 0; k--) {
+                t.is("how many more", x.undo(), k);
+                t.is("the purse then", x.painter(0, 1), 99 - k);
+                t.is("the coats then", x.cell(0, 1), k);
+                t.is("the other cell", x.cell(1, 1), 0);
+            }
+        });
+        t.test(34, "all but the RULES and the TAPE", () -> {
+            LatestCoat x = told();
+            x.log(2, 0, 1);
+            x.image(0);
+            x.log(-1, 0, 0);
+            x.log(1, 1, 0);
+            t.is("another log", x.ruled(0), 0);
+            x.back(0);
+            t.is("the log that was", x.ruled(0), 1);
+            t.is("by rule 0", x.ruled(1), 0);
         });
         t.test(34, "An IMAGE is made: the HOUR", () -> {
             LatestCoat x = new LatestCoat();

@@ -135,6 +135,9 @@ public final class RuleSentencesTest {
         t.test(5, "texts likewise", () -> {
             LatestCoat x = new LatestCoat();
             t.is("of 400 bytes", Due.rule(x, "paint" + " ".repeat(384) + "1;  paint 2"), 0);
+            t.is("of 400 bytes, to a word's last letter", Due.rule(x, "paint" + " ".repeat(392) + "top"), 1);
+            t.ruleFault("paint 1 if 1" + " ".repeat(387) + "<^", Due.CANT_STAND);
+            t.ruleFault("paint 1 if 1" + " ".repeat(386) + "<=^", Due.CANT_STAND);
             t.ruleFault("^", Due.CANT_STAND);
             t.ruleFault("^;paint 1", Due.CANT_STAND);
             t.ruleFault("paint 1;^", Due.CANT_STAND);
@@ -200,6 +203,12 @@ public final class RuleSentencesTest {
                 t.is("2" + signs[k] + "2", holds("2" + signs[k] + "2"), alike[k]);
                 t.is("3" + signs[k] + "2", holds("3" + signs[k] + "2"), more[k]);
                 t.is("-1" + signs[k] + "0", holds("0-1" + signs[k] + "0"), less[k]);
+                t.is("not 1" + signs[k] + "2", holds("not 1" + signs[k] + "2"), 1 - less[k]);
+                t.is("not 2" + signs[k] + "2", holds("not 2" + signs[k] + "2"), 1 - alike[k]);
+                t.is("not 3" + signs[k] + "2", holds("not 3" + signs[k] + "2"), 1 - more[k]);
+                t.is("2" + signs[k] + "2 and so", holds("2" + signs[k] + "2 and 1=1"), alike[k]);
+                t.is("so and 3" + signs[k] + "2", holds("1=1 and 3" + signs[k] + "2"), more[k]);
+                t.is("not so or 1" + signs[k] + "2", holds("1=2 or 1" + signs[k] + "2"), less[k]);
             }
             t.ruleFault("paint 1 if 1<^>2", Due.CANT_STAND);
             t.ruleFault("paint 1 if 1=^<2", Due.CANT_STAND);
@@ -245,8 +254,13 @@ public final class RuleSentencesTest {
             t.ruleFault("paint 1 if ^notwet=1", Due.CANT_STAND);
             t.ruleFault("paint 1 if wet=1 ^andtop=1", Due.CANT_STAND);
             t.ruleFault("^paints 1", Due.CANT_STAND);
-            t.ruleFault("paint ^coat", Due.CANT_STAND);
-            t.ruleFault("paint ^paint", Due.CANT_STAND);
+            t.ruleFault("^paintz 1", Due.CANT_STAND);
+            t.ruleFault("paint ^topz", Due.CANT_STAND);
+            t.ruleFault("paint ^atop", Due.CANT_STAND);
+            for (String word : new String[] {"street", "coat", "bare", "suit", "paint", "if", "and", "or", "not"}) {
+                t.ruleFault("paint ^" + word, Due.CANT_STAND);
+                t.ruleFault("paint 1 if 1=^" + word, Due.CANT_STAND);
+            }
         });
         t.test(5, "/ is towards 0, % its rest, both 0 by 0", () -> {
             // top is -1 in that street
@@ -287,6 +301,10 @@ public final class RuleSentencesTest {
             t.is("wet", holdsOf(0, 4, "wet=1"), 1);
             t.is("dry", holdsOf(0, 0, "wet=0"), 1);
             t.is("no coat", holdsOf(0, 1, "wet=0"), 1);
+            LatestCoat x = Due.on("street 9 50 0;thing 1 0;painter 1 0");
+            Due.rule(x, "paint 1 if wet=0");
+            x.force(0);
+            t.is("no coat, where they are long wet", x.hour(), 1);
         });
         t.test(5, "coats (of the CELL), purse, hour", () -> {
             t.is("no coats", holdsOf(0, 1, "coats=0"), 1);
@@ -339,6 +357,17 @@ public final class RuleSentencesTest {
             t.is("the second saw it", x.coat(1, 0, 0), 1);
             t.is("the third saw both", x.coat(0, 1, 0), 2);
             t.is("the fourth saw the third's", x.coat(0, 0, 0), 3);
+            LatestCoat suit = Due.on("street 1 50 0;thing 1 0;painter 1 0;painter 2 0;coat 0 1;suit");
+            Due.rule(suit, "paint 1 if painter=0;paint 1 if whose=0-1 and mine=0 and owner=0-1");
+            suit.force(0);
+            t.is("by the first's wet coat it is nobody's for the second", suit.hour(), 2);
+            LatestCoat wide = Due.on("street 1 50 0;thing 6 0;thing 6 0;thing 3 0;thing 1 0;painter 1 0;rain 0 0");
+            Due.rule(wide, "paint cell");
+            wide.force(0);
+            t.is("on a full street", wide.hour(), 1);
+            t.is("in rain", wide.cell(15, 1), 0);
+            wide.hour();
+            t.is("the last cell", wide.cell(15, 1), 1);
         });
     }
 
@@ -369,6 +398,20 @@ public final class RuleSentencesTest {
             t.ruleFault("paint 1 if 1^;paint 1", Due.CANT_STAND);
             t.ruleFault("paint 1 if [1^]=1", Due.CANT_STAND);
             t.ruleFault("paint 1 if [1=1]^=1", Due.CANT_STAND);
+            t.ruleFault("paint ^>=1", Due.CANT_STAND);
+            t.ruleFault("paint 1 if ^<=1", Due.CANT_STAND);
+            t.ruleFault("paint 1 if 1 ^2 3", Due.CANT_STAND);
+            t.ruleFault("^" + ";".repeat(400), Due.CANT_STAND);
+            for (int sign = 0; sign < 256; sign++) {
+                if ("abcdefghijklmnopqrstuvwxyz0123456789+-*/%<=>[]; ^".indexOf(sign) < 0) {
+                    t.ruleFault("^" + (char) sign + "paint 1", Due.CANT_STAND);
+                    t.ruleFault("paint ^" + (char) sign + "1", Due.CANT_STAND);
+                    t.ruleFault("paint 1 if ^" + (char) sign + "1=1", Due.CANT_STAND);
+                    t.ruleFault("paint 1 if 1^" + (char) sign + "1", Due.CANT_STAND);
+                    t.ruleFault("paint 1^" + (char) sign, Due.CANT_STAND);
+                }
+            }
+            t.is("^, which marks a place here", Due.rule(new LatestCoat(), "paint 1 if ^1=1"), Due.fault(11, Due.CANT_STAND));
             t.ruleFault("paint^\t1", Due.CANT_STAND);
             t.ruleFault("paint 1^\0", Due.CANT_STAND);
             t.ruleFault("paint 1^\u00e9", Due.CANT_STAND);

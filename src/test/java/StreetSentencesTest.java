@@ -67,6 +67,15 @@ public final class StreetSentencesTest {
             Due.hours(y, 506);
             t.is("21 rents", y.painter(0, 1), 42);
         });
+        t.test(1, "An object is used for at most 512 calls", () -> {
+            LatestCoat x = Due.on("street 9 50 0;thing 1 2;painter 1 0");
+            Due.rule(x, "paint 1 if hour=575");
+            x.force(0);
+            Due.hours(x, 480);
+            t.is("a coat that is to be painted in hour 575 is wet at 580", x.ahead(0, 100, 2), -1);
+            Due.hours(x, 10);
+            t.is("and dry at 590", x.ahead(0, 100, 2), 0);
+        });
         t.test(1, "what later calls answer is free", () -> {
             LatestCoat x = Due.on("street 1 50 0;thing 1 2;painter 1 0;coat 0 0");
             Due.hours(x, 2000);
@@ -137,6 +146,16 @@ public final class StreetSentencesTest {
             x.feed(0x3b737569, 0x74202020, 0x20202020, 0x20202020, 0x20202020);
             t.is("what was cut off is not there again", x.street(), 0);
             t.is("what came behind it is", x.count(6), 1);
+            Due.tape(x, "street 1 50 0;suits");
+            x.end(18);
+            t.is("cut within a word", x.street(), 0);
+            Due.tape(x, "street 1 50 10");
+            x.end(13);
+            t.is("cut within a number", x.street(), 0);
+            t.is("COST", x.count(2), 1);
+            Due.tape(x, "paint 1 if 1<=1");
+            x.end(13);
+            t.is("cut within a sign", x.rule(), Due.fault(13, Due.CANT_STAND));
         });
         t.test(3, "NONE, and nothing happens, if it has not so many", () -> {
             LatestCoat x = new LatestCoat();
@@ -485,6 +504,20 @@ public final class StreetSentencesTest {
             t.streetFault("street 1 50 0;^paint 1", Due.CANT_STAND);
             t.streetFault("street 1 50 0;^top", Due.CANT_STAND);
             t.streetFault("street 1 50 0;^things 1 0", Due.CANT_STAND);
+            t.streetFault("^streetz 1 50 0", Due.CANT_STAND);
+            t.streetFault("street ^>=1 50 0", Due.CANT_STAND);
+            t.streetFault("^" + ";".repeat(400), Due.CANT_STAND);
+            for (String word : "cell rent top wet whose mine owner coats purse hour paint if and or not".split(" ")) {
+                t.streetFault("street 1 50 0;^" + word + " 1 1", Due.CANT_STAND);
+                t.streetFault("street ^" + word, Due.CANT_STAND);
+            }
+            for (int sign = 0; sign < 256; sign++) {
+                if ("abcdefghijklmnopqrstuvwxyz0123456789; ^".indexOf(sign) < 0) {
+                    t.streetFault("^" + (char) sign + "street 1 50 0", Due.CANT_STAND);
+                    t.streetFault("street ^" + (char) sign + "1 50 0", Due.CANT_STAND);
+                    t.streetFault("street 1 50 0^" + (char) sign, Due.CANT_STAND);
+                }
+            }
             t.streetFault("street 1 50 0;thing^\t1 0", Due.CANT_STAND);
             t.streetFault("street 1 50 0^\n", Due.CANT_STAND);
             t.streetFault("street 1 50 0^\0", Due.CANT_STAND);
@@ -515,8 +548,17 @@ public final class StreetSentencesTest {
         t.test(4, "1 a NUMBER of more digits", () -> {
             t.street("street 00001 00050 00000;thing 00001 00020;painter 00008 00099;coat 00000 00000;rain 00000 00199", 1);
             t.streetFault("street ^000001 50 0", Due.BAD_NUMBER);
+            t.streetFault("street 1 ^000050 0", Due.BAD_NUMBER);
             t.streetFault("street 1 50 ^000000", Due.BAD_NUMBER);
+            t.streetFault("street 1 50 0;thing ^000001 1", Due.BAD_NUMBER);
             t.streetFault("street 1 50 0;thing 1 ^000001", Due.BAD_NUMBER);
+            t.streetFault("street 1 50 0;painter ^000001 1", Due.BAD_NUMBER);
+            t.streetFault("street 1 50 0;painter 1 ^000001", Due.BAD_NUMBER);
+            t.streetFault("street 1 50 0;thing 1 0;painter 1 0;coat ^000000 0", Due.BAD_NUMBER);
+            t.streetFault("street 1 50 0;thing 1 0;painter 1 0;coat 0 ^000000", Due.BAD_NUMBER);
+            t.streetFault("street 1 50 0;thing 1 0;bare ^000000", Due.BAD_NUMBER);
+            t.streetFault("street 1 50 0;rain ^000001 1", Due.BAD_NUMBER);
+            t.streetFault("street 1 50 0;rain 0 ^000001", Due.BAD_NUMBER);
             t.streetFault("street 1 50 0;painter ^" + "0".repeat(300), Due.BAD_NUMBER);
             t.streetFault("street 1 50 0;rain 0 ^4294967296", Due.BAD_NUMBER);
         });
