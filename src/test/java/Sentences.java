@@ -87,6 +87,7 @@ final class Sentences {
         String text = marked.replace("^", "");
         is("street '" + marked + "'", Due.street(x, text), Due.fault(marked.indexOf('^'), kind));
         is("then there is no street", x.when(), -1);
+        is("then the tape is empty", x.count(15), 0);
     }
 
     void ruleFault(String marked, int kind) {
@@ -94,6 +95,7 @@ final class Sentences {
         String text = marked.replace("^", "");
         is("rule '" + marked + "'", Due.rule(x, text), Due.fault(marked.indexOf('^'), kind));
         is("then there is no rule", x.count(7), 0);
+        is("then the tape is empty", x.count(15), 0);
     }
 
     /** A new object with a street that must be taken. */
