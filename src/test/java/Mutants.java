@@ -49,6 +49,8 @@ public final class Mutants {
     private final List<String> others = new ArrayList<>();
     private final List<String> missed = new ArrayList<>();
     private final TreeSet<String> awake = new TreeSet<>();
+    private int notCompiled;
+    private int endless;
 
     private Mutants(String source, Path compiled) throws IOException {
         this.source = source;
@@ -123,6 +125,7 @@ public final class Mutants {
             int[] place = places.get(mutant);
             Map<String, byte[]> classes = compile(source.substring(0, place[0]) + others.get(mutant) + source.substring(place[1]));
             if (classes.isEmpty()) {
+                leaveOut(false);
                 return;
             }
             classes.putAll(tests);
@@ -133,6 +136,7 @@ public final class Mutants {
             thread.join(SECONDS * 1000L);
             if (thread.isAlive()) {
                 thread.stop();
+                leaveOut(true);
                 return;
             }
             note(mutant, failed);
@@ -172,6 +176,11 @@ public final class Mutants {
         }
     }
 
+    private synchronized void leaveOut(boolean isEndless) {
+        endless += isEndless ? 1 : 0;
+        notCompiled += isEndless ? 0 : 1;
+    }
+
     private synchronized void note(int mutant, TreeSet<String> failed) {
         awake.addAll(failed);
         if (failed.isEmpty()) {
@@ -198,7 +207,8 @@ public final class Mutants {
                 System.out.println("never wrong: " + quote);
             }
         }
-        System.out.println(places.size() + " mutants, " + missed.size() + " that no sentence found wrong");
+        System.out.println(places.size() + " mutants, " + notCompiled + " that do not compile, " + endless + " that do not end, "
+            + missed.size() + " that no sentence found wrong");
     }
 
     /** The classes of a source, or none if it does not compile. */
